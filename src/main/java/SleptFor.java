@@ -538,9 +538,9 @@ public final class SleptFor {
         int person = night.draw(valley.folk.people);
         int work = turn == 3 ? night.draw(valley.folk.works) : NONE;
         if (turn < 3 && isDoing(person, IDLE)) {
-            int wanted = valley.folk.may[person] & night.those(AWAKE);
-            if (wanted != 0) {
-                night.begin(person, ASLEEP, Integer.numberOfTrailingZeros(wanted));
+            int whom = lowestOf(valley.folk.may[person] & night.those(AWAKE));
+            if (whom != NONE) {
+                night.begin(person, ASLEEP, whom);
             }
         } else if (turn == 3 && isDoing(person, IDLE)) {
             night.begin(person, AWAKE, work);
@@ -571,6 +571,15 @@ public final class SleptFor {
             tape[taped] = four >> shift & 255;
             taped++;
         }
+    }
+
+    private static int lowestOf(int bits) {
+        for (int p = 0; p < MOST_PEOPLE; p++) {
+            if ((bits >> p & 1) == 1) {
+                return p;
+            }
+        }
+        return NONE;
     }
 
     private static long power(long base, int times) {
@@ -1310,7 +1319,10 @@ public final class SleptFor {
                 case AND: value = left & right; break;
                 default: break;
             }
-            return (int) Math.max(-MOST_VALUE, Math.min(MOST_VALUE, value));
+            if (value > MOST_VALUE) {
+                return MOST_VALUE;
+            }
+            return value < -MOST_VALUE ? -MOST_VALUE : (int) value;
         }
     }
 
