@@ -345,6 +345,7 @@ public final class PromisesTest {
         for (int i = 0; i < 20; i++) x.hour(49);
         due(x.about(2), 980);
         x.hour(19);
+        due(x.year(9999, 30), 0);
         due(x.year(1, 1), 0); // 999 stays
         due(x.about(2), 999);
         due(x.about(3), next);
@@ -436,6 +437,21 @@ public final class PromisesTest {
         faulty("worth WHO;", 1, 6);
         faulty("worth whoo;", 1, 6);
         faulty("worth dreams;", 1, 6);
+        faulty("worth whoZ;", 1, 6);
+        faulty("worth whoA;", 1, 6);
+        faulty("worth whoa;", 1, 6);
+        faulty("worth whoz;", 1, 6);
+        faulty("worth who[;", 1, 9);
+        faulty("worth who@;", 1, 9);
+        faulty("worth who`;", 1, 9);
+        faulty("worth who{;", 1, 9);
+        faulty("worth 1:;", 1, 7);
+        faulty("worth 1/;", 1, 8);
+        faulty(";".repeat(300), 1, 0);
+        // as many TOKENS as there can be
+        faulty("worth" + "1+".repeat(146) + "1;\n", 0, -1);
+        faulty("worth" + "1+".repeat(147) + "1", 1, 300);
+        faulty("worth" + "1+".repeat(147) + ";", 1, 299);
         faulty("wake who at 1;", 1, 5);
         faulty("worth sound;", 1, 6);
         faulty("worth 1" + (char) 233 + ";", 1, 7);
@@ -1034,6 +1050,17 @@ public final class PromisesTest {
         due(x.ring(-2), 2);
         due(x.repay(5, 6, 2), 0);
         due(x.ring(-1), 3);
+        x = plain(8, 1);
+        allMay(x, 8);
+        int[] eight = {0, 7, 1, 6, 2, 5, 3, 4};
+        for (int i = 0; i < 8; i++) {
+            due(x.ring(-1), -1);
+            owe(x, eight[i], eight[(i + 1) % 8], 2);
+        }
+        due(x.ring(-1), 8);
+        for (int i = 0; i < 8; i++) due(x.ring(i), eight[i]);
+        due(x.ring(8), -1);
+        due(x.ring(-2), 2);
     }
 
     private static void p35and36() {
