@@ -1,4 +1,4 @@
-/** Each promise of the document: ordinary inputs, the edges that it names, and wrong inputs; answers worked out by hand. */
+/** Each promise of the document: ordinary inputs, the edges that it names, and wrong inputs; answers worked out from its words, some draws by a script. */
 public final class PromisesTest {
     private static int wrong;
     private static int asked;
