@@ -74,7 +74,7 @@ final class AskSentences extends Sentences {
         });
         test(20, "-2 for others.", () -> {
             SleptFor x = known();
-            for (int bad : new int[] {LOW, -2, -1, 12, 13, 256, HIGH}) refused(x, -2, () -> x.of(0, bad), () -> x.of(2, bad));
+            refused(x, -2, new int[] {LOW, -2, -1, 12, 13, 256, HIGH}, bad -> x.of(0, bad), bad -> x.of(2, bad));
             refused(x, -2, () -> x.of(3, 0), () -> x.of(3, 12), () -> x.of(7, 2));
             SleptFor y = known();
             for (int bad : NO_PERSON) for (int what = 0; what < 12; what++) due(y.of(bad, what), -2);
@@ -89,8 +89,8 @@ final class AskSentences extends Sentences {
         });
         test(21, "NONE for others.", () -> {
             SleptFor x = known();
-            for (int bad : new int[] {LOW, -1, 3, 4, 256, HIGH}) refused(x, -1, () -> x.ofWork(0, bad));
-            for (int bad : new int[] {LOW, -2, -1, 2, 5, 6, 256, HIGH}) refused(x, -1, () -> x.ofWork(bad, 0));
+            refused(x, -1, new int[] {LOW, -1, 3, 4, 256, HIGH}, bad -> x.ofWork(0, bad));
+            refused(x, -1, new int[] {LOW, -2, -1, 2, 5, 6, 256, HIGH}, bad -> x.ofWork(bad, 0));
         });
         test(22, "OWES.", () -> {
             SleptFor x = known();
@@ -118,8 +118,8 @@ final class AskSentences extends Sentences {
         });
         test(23, "NONE for others, and if it isn't KEPT.", () -> {
             SleptFor x = known();
-            for (int bad : new int[] {LOW, -1, 3, 4, 256, HIGH}) refused(x, -1, () -> x.kept(0, bad));
-            for (int bad : new int[] {LOW, -1, 2, 3, 999, 1000, HIGH}) refused(x, -1, () -> x.kept(bad, 0), () -> x.kept(bad, 2));
+            refused(x, -1, new int[] {LOW, -1, 3, 4, 256, HIGH}, bad -> x.kept(0, bad));
+            refused(x, -1, new int[] {LOW, -1, 2, 3, 999, 1000, HIGH}, bad -> x.kept(bad, 0), bad -> x.kept(bad, 2));
             x.hour(58);
             due(x.kept(0, 0), 1);
             x.hour(1);
@@ -141,8 +141,8 @@ final class AskSentences extends Sentences {
         });
         test(24, "NONE for others.", () -> {
             SleptFor x = known();
-            for (int bad : new int[] {LOW, -1, 0, 61, 62, HIGH}) refused(x, -1, () -> x.foretoldDone(bad, 0));
-            for (int bad : new int[] {LOW, -1, 2, 5, 6, HIGH}) refused(x, -1, () -> x.foretoldDone(1, bad));
+            refused(x, -1, new int[] {LOW, -1, 0, 61, 62, HIGH}, bad -> x.foretoldDone(bad, 0));
+            refused(x, -1, new int[] {LOW, -1, 2, 5, 6, HIGH}, bad -> x.foretoldDone(1, bad));
         });
         test(25, "FORETOLD: in how many HOURS a PERSON first STOPS.", () -> {
             SleptFor x = known();
@@ -162,10 +162,10 @@ final class AskSentences extends Sentences {
             due(x.foretoldStop(3, 0), -1);
             due(x.foretoldStop(60, 1), -1);
             due(x.foretoldStop(60, 2), -1);
-            for (int bad : new int[] {LOW, -1, 0, 61, HIGH}) refused(x, -1, () -> x.foretoldStop(bad, 0));
+            refused(x, -1, new int[] {LOW, -1, 0, 61, HIGH}, bad -> x.foretoldStop(bad, 0));
             SleptFor y = known();
             rule(y, "burn 99;");
-            for (int bad : NO_PERSON) refused(y, -1, () -> y.foretoldStop(1, bad));
+            refused(y, -1, NO_PERSON, bad -> y.foretoldStop(1, bad));
             refused(y, -1, () -> y.foretoldStop(1, 3));
             due(y.foretoldStop(1, 0), 1);
         });
@@ -183,15 +183,18 @@ final class AskSentences extends Sentences {
             }
             due(x.match(128, 0, 1, false, 0), 7);
         });
-        test(26, "NONE: none, and for others.", () -> {
+        test(26, "NONE: none,", () -> {
             SleptFor x = free(7, 1);
-            refused(x, -1, () -> x.match(3, 0, 4, false, -1), () -> x.match(3, 0, 4, true, 2)); // none
-            rule(x, "burn 0;");
+            due(x.match(3, 0, 12, false, -1), 2);
+            refused(x, -1, () -> x.match(3, 0, 4, false, -1), () -> x.match(3, 0, 4, true, 2), () -> x.match(15, 0, 112, true, -1));
+        });
+        test(26, "and for others.", () -> {
+            SleptFor x = rule(free(7, 1), "burn 0;");
             due(x.match(1, 0, 6, false, -1), 0);
             refused(x, -1, () -> x.match(1, 0, 6, false, 0), () -> x.match(1, 0, 6, false, 3), () -> x.match(1, 0, 6, true, 7), () -> x.match(1, 0, 6, false, 8),
-                () -> x.match(1, 0, 6, false, -2), () -> x.match(1, 0, 6, false, 33), () -> x.match(1, 0, 6, false, LOW), () -> x.match(1, 0, 6, false, HIGH));
-            refused(x, -1, () -> x.match(1, 1, 6, false, -1), () -> x.match(1, -1, 6, false, -1), () -> x.match(1, 6, 6, false, -1), () -> x.match(1, HIGH, 6, false, 1));
-            refused(x, -1, () -> x.match(128, 0, 6, false, -1), () -> x.match(129, 0, 6, false, -1), () -> x.match(256, 0, 6, false, -1), () -> x.match(LOW, 0, 6, false, -1),
+                () -> x.match(1, 0, 6, false, -2), () -> x.match(1, 0, 6, false, 33), () -> x.match(1, 0, 6, false, LOW), () -> x.match(1, 0, 6, false, HIGH),
+                () -> x.match(1, 1, 6, false, -1), () -> x.match(1, -1, 6, false, -1), () -> x.match(1, 6, 6, false, -1), () -> x.match(1, HIGH, 6, false, 1),
+                () -> x.match(128, 0, 6, false, -1), () -> x.match(129, 0, 6, false, -1), () -> x.match(256, 0, 6, false, -1), () -> x.match(LOW, 0, 6, false, -1),
                 () -> x.match(-1, 0, 6, false, -1), () -> x.match(1, 0, 128, false, -1), () -> x.match(1, 0, 130, false, 1), () -> x.match(1, 0, LOW, false, -1), () -> x.match(1, 0, -2, false, -1));
         });
         test(27, "WHO CAN'T (bits).", () -> {
@@ -201,10 +204,13 @@ final class AskSentences extends Sentences {
             due(x.whoCannot(192, 0, 1), 192);
             due(x.whoCannot(0b11100000, 0, 1), 32);
         });
-        test(27, "NONE: none, and for others.", () -> {
+        test(27, "NONE: none,", () -> {
             SleptFor x = free(7, 1);
-            refused(x, -1, () -> x.whoCannot(1, 0, 2), () -> x.whoCannot(3, 0, 12)); // none
-            rule(x, "burn 99;");
+            due(x.whoCannot(3, 0, 4), 3);
+            refused(x, -1, () -> x.whoCannot(1, 0, 2), () -> x.whoCannot(3, 0, 12));
+        });
+        test(27, "and for others.", () -> {
+            SleptFor x = rule(free(7, 1), "burn 99;");
             due(x.whoCannot(1, 0, 2), 1);
             refused(x, -1, () -> x.whoCannot(0, 0, 2), () -> x.whoCannot(1, 0, 0), () -> x.whoCannot(1, 0, 1), () -> x.whoCannot(3, 0, 6), () -> x.whoCannot(31, 0, 32),
                 () -> x.whoCannot(1, 1, 2), () -> x.whoCannot(1, -1, 2), () -> x.whoCannot(1, HIGH, 2), () -> x.whoCannot(128, 0, 2), () -> x.whoCannot(1, 0, 128),
@@ -249,30 +255,38 @@ final class AskSentences extends Sentences {
             SleptFor x = new SleptFor();
             due(x.valley(13, 10), -1);
             due(x.valley(3, 1), -1);
-            for (int bad : new int[] {LOW, -1, 0, 24, 25, 256 + 1, HIGH}) refused(x, -1, () -> x.valley(bad, 10));
-            for (int bad : new int[] {LOW, -1, 0, 100, 101, 256 + 10, HIGH}) refused(x, -1, () -> x.valley(1, bad));
+            refused(x, -1, new int[] {LOW, -1, 0, 24, 25, 256 + 1, HIGH}, bad -> x.valley(bad, 10));
+            refused(x, -1, new int[] {LOW, -1, 0, 100, 101, 256 + 10, HIGH}, bad -> x.valley(1, bad));
         });
     }
 
     private static void rota() {
         test(30, "A ROTA: how many changes (hour NONE), who in an HOUR (0 .. n - 1).", () -> {
-            SleptFor x = plain(8, 0);
             int[] who = {5, 5, 7, 7, 5, 5, 7, 7};
             for (int n = 1; n <= 8; n++) {
+                SleptFor x = plain(8, 0);
                 int hours = n;
                 due(x.rota(n, 160, 2, 2, SleptFor.NONE), (n - 1) / 2);
                 for (int hour = 0; hour < n; hour++) due(x.rota(n, 160, 2, 2, hour), who[hour]);
                 refused(x, -1, () -> x.rota(hours, 160, 2, 2, hours));
             }
         });
-        test(30, "NONE: none, there is none such, and for others.", () -> {
-            SleptFor x = plain(6, 0);
-            due(x.rota(4, 3, 2, 1, -1), 1);
-            refused(x, -1, () -> x.rota(5, 3, 2, 3, -1), () -> x.rota(5, 3, 2, 3, 0)); // none
-            refused(x, -1, () -> x.rota(4, 3, 2, 1, 4), () -> x.rota(4, 3, 2, 1, -2), () -> x.rota(4, 3, 2, 1, HIGH), () -> x.rota(4, 3, 2, 1, LOW)); // none such
-            for (int bad : new int[] {LOW, -1, 0, 9, HIGH}) refused(x, -1, () -> x.rota(bad, 3, 2, 1, -1), () -> x.rota(bad, 3, 2, 1, 0), () -> x.rota(2, 3, bad, 1, -1));
-            for (int bad : new int[] {LOW, -1, 9, HIGH}) refused(x, -1, () -> x.rota(2, 3, 2, bad, -1));
-            for (int bad : new int[] {LOW, LOW + 3, -1, 0, 31, 64, 65, 256 + 1, HIGH}) refused(x, -1, () -> x.rota(2, bad, 2, 1, -1));
+        test(30, "NONE: none,", () -> {
+            SleptFor x = plain(2, 0);
+            due(x.rota(5, 3, 2, 2, -1), 2);
+            refused(x, -1, () -> x.rota(5, 3, 2, 3, -1), () -> x.rota(5, 3, 2, 3, 0), () -> x.rota(3, 1, 2, 1, 0));
+        });
+        test(30, "there is none such,", () -> {
+            SleptFor x = plain(2, 0);
+            due(x.rota(4, 3, 2, 1, 3), 1);
+            refused(x, -1, () -> x.rota(4, 3, 2, 1, 4), () -> x.rota(4, 3, 2, 1, 8), () -> x.rota(4, 3, 2, 1, -2), () -> x.rota(4, 3, 2, 1, HIGH), () -> x.rota(4, 3, 2, 1, LOW));
+        });
+        test(30, "and for others.", () -> {
+            SleptFor x = plain(5, 0);
+            due(x.rota(2, 30, 2, 1, -1), 0);
+            refused(x, -1, new int[] {LOW, -1, 0, 9, HIGH}, bad -> x.rota(bad, 3, 2, 1, -1), bad -> x.rota(bad, 3, 2, 1, 0), bad -> x.rota(2, 3, bad, 1, -1));
+            refused(x, -1, new int[] {LOW, -1, 9, HIGH}, bad -> x.rota(2, 3, 2, bad, -1));
+            refused(x, -1, new int[] {LOW, LOW + 3, -1, 0, 31, 32, 33, 64, 256 + 1, HIGH}, bad -> x.rota(2, bad, 2, 1, -1));
         });
     }
 
@@ -295,7 +309,7 @@ final class AskSentences extends Sentences {
             x.wake(0, 0);
             x.sleep(1, 0);
             refused(x, -1, () -> x.chain(0), () -> x.chain(2), () -> x.chain(4));
-            for (int bad : NO_PERSON) refused(x, -1, () -> x.chain(bad));
+            refused(x, -1, NO_PERSON, bad -> x.chain(bad));
         });
         test(32, "GUARD (bits).", () -> {
             SleptFor x = folk(9, 9, 9, 9, 9, 9, 9, 9);
@@ -318,10 +332,10 @@ final class AskSentences extends Sentences {
             due(x.guard(1, 9), 0); // others of all kinds, none ASLEEP
             refused(x, -1, () -> x.guard(1, 2), () -> x.guard(1, 6), () -> x.guard(1, 15), () -> x.guard(1, 0));
             refused(x, -1, () -> x.guard(0, 4), () -> x.guard(3, 4), () -> x.guard(4, 4));
-            for (int bad : new int[] {LOW, LOW + 4, -1, -3, 16, 20, 128, 256, 260, HIGH}) refused(x, -1, () -> x.guard(1, bad));
+            refused(x, -1, new int[] {LOW, LOW + 4, -1, -3, 16, 20, 128, 256, 260, HIGH}, bad -> x.guard(1, bad));
             SleptFor y = free(2, 0);
             y.sleep(1, 0);
-            for (int bad : NO_PERSON) refused(y, -1, () -> y.guard(bad, 1));
+            refused(y, -1, NO_PERSON, bad -> y.guard(bad, 1));
         });
     }
 
@@ -334,10 +348,10 @@ final class AskSentences extends Sentences {
         });
         test(33, "NONE for others.", () -> {
             SleptFor x = new SleptFor();
-            for (int bad : new int[] {LOW, -1, 0, 6, 7, HIGH}) refused(x, -1, () -> x.enough(bad, 5, 1, 1, false), () -> x.enough(bad, 5, 0, 0, true));
-            for (int bad : new int[] {LOW, -1, 11, 12, HIGH}) refused(x, -1, () -> x.enough(1, bad, 1, 1, false), () -> x.enough(1, bad, 0, 0, true));
-            for (int bad : new int[] {LOW, -1, 16, 17, HIGH}) refused(x, -1, () -> x.enough(1, 5, bad, 1, false), () -> x.enough(1, 0, bad, 0, true));
-            for (int bad : new int[] {LOW, -1, 6, 7, HIGH}) refused(x, -1, () -> x.enough(1, 5, 1, bad, false), () -> x.enough(5, 5, 3, bad, true));
+            refused(x, -1, new int[] {LOW, -1, 0, 6, 7, HIGH}, bad -> x.enough(bad, 5, 1, 1, false), bad -> x.enough(bad, 5, 0, 0, true));
+            refused(x, -1, new int[] {LOW, -1, 11, 12, HIGH}, bad -> x.enough(1, bad, 1, 1, false), bad -> x.enough(1, bad, 0, 0, true));
+            refused(x, -1, new int[] {LOW, -1, 16, 17, HIGH}, bad -> x.enough(1, 5, bad, 1, false), bad -> x.enough(1, 0, bad, 0, true));
+            refused(x, -1, new int[] {LOW, -1, 6, 7, HIGH}, bad -> x.enough(1, 5, 1, bad, false), bad -> x.enough(5, 5, 3, bad, true));
             for (int k = 1; k <= 5; k++) {
                 int sleepers = k;
                 due(x.enough(k, 0, 15 / k, k, false), 1);
@@ -356,7 +370,7 @@ final class AskSentences extends Sentences {
         });
         test(34, "NONE: none, there is none such, and for others.", () -> {
             SleptFor x = ring();
-            for (int bad : new int[] {LOW, -3, 3, 4, 7, 8, 31, 32, HIGH}) refused(x, -1, () -> x.ring(bad));
+            refused(x, -1, new int[] {LOW, -3, 3, 4, 7, 8, 31, 32, HIGH}, bad -> x.ring(bad));
             x.repay(2, 1, 2);
             for (int i = -3; i < 9; i++) due(x.ring(i), -1); // it isn't closed any more
         });
@@ -398,7 +412,7 @@ final class AskSentences extends Sentences {
             SleptFor x = free(3, 1);
             x.wake(0, 0);
             due(x.without(255), 1);
-            for (int bad : new int[] {LOW, -256, -1, 256, 257, 511, HIGH}) refused(x, -1, () -> x.without(bad));
+            refused(x, -1, new int[] {LOW, -256, -1, 256, 257, 511, HIGH}, bad -> x.without(bad));
         });
         test(36, "STRIKE (bits).", () -> {
             SleptFor x = free(8, 1);
@@ -426,7 +440,7 @@ final class AskSentences extends Sentences {
             SleptFor y = free(2, 1);
             y.wake(0, 0);
             y.wake(1, 0);
-            for (int bad : NO_PERSON) refused(y, -1, () -> y.strike(bad));
+            refused(y, -1, NO_PERSON, bad -> y.strike(bad));
         });
     }
 
@@ -537,7 +551,7 @@ final class AskSentences extends Sentences {
         });
         test(41, "-2 for others.", () -> {
             SleptFor x = plain(2, 1);
-            for (int bad : new int[] {LOW, -10, -2, -1, 10, 11, 256, HIGH}) refused(x, -2, () -> x.about(bad));
+            refused(x, -2, new int[] {LOW, -10, -2, -1, 10, 11, 256, HIGH}, bad -> x.about(bad));
         });
     }
 }

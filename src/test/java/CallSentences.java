@@ -61,7 +61,7 @@ final class CallSentences extends Sentences {
         });
         test(2, "NONE for others,", () -> {
             SleptFor x = plain(2, 0);
-            for (int bad : new int[] {LOW, -10, -1, 10, 11, 19, 256, HIGH}) refused(x, -1, () -> x.person(bad, 5), () -> x.person(5, bad), () -> x.person(bad, bad));
+            refused(x, -1, new int[] {LOW, -10, -1, 10, 11, 19, 256, HIGH}, bad -> x.person(bad, 5), bad -> x.person(5, bad), bad -> x.person(bad, bad));
             due(x.person(0, 9), 2); // they took no number
         });
         test(2, "or if there are 8.", () -> {
@@ -80,8 +80,8 @@ final class CallSentences extends Sentences {
         });
         test(3, "NONE for others,", () -> {
             SleptFor x = plain(0, 2);
-            for (int bad : new int[] {LOW, -1, 0, 100, 101, 256, HIGH}) refused(x, -1, () -> x.work(bad, 5));
-            for (int bad : new int[] {LOW, -1, 10, 11, 256, HIGH}) refused(x, -1, () -> x.work(5, bad));
+            refused(x, -1, new int[] {LOW, -1, 0, 100, 101, 256, HIGH}, bad -> x.work(bad, 5));
+            refused(x, -1, new int[] {LOW, -1, 10, 11, 256, HIGH}, bad -> x.work(5, bad));
             due(x.work(1, 9), 2);
         });
         test(3, "or if there are 6.", () -> {
@@ -102,7 +102,7 @@ final class CallSentences extends Sentences {
         test(4, "False for others,", () -> {
             SleptFor x = plain(3, 0);
             refused(x, () -> x.may(0, 0), () -> x.may(2, 2), () -> x.may(0, 3), () -> x.may(3, 0), () -> x.may(3, 3));
-            for (int bad : NO_PERSON) refused(x, () -> x.may(0, bad), () -> x.may(bad, 0));
+            refused(x, NO_PERSON, bad -> x.may(0, bad), bad -> x.may(bad, 0));
         });
         test(4, "and if it is so already.", () -> {
             SleptFor x = plain(3, 0);
@@ -121,7 +121,7 @@ final class CallSentences extends Sentences {
         test(5, "False for others,", () -> {
             SleptFor x = plain(3, 0);
             refused(x, () -> x.hears(0, 0), () -> x.hears(2, 2), () -> x.hears(0, 3), () -> x.hears(3, 0), () -> x.hears(3, 3));
-            for (int bad : NO_PERSON) refused(x, () -> x.hears(0, bad), () -> x.hears(bad, 0));
+            refused(x, NO_PERSON, bad -> x.hears(0, bad), bad -> x.hears(bad, 0));
         });
         test(5, "and if it is so already.", () -> {
             SleptFor x = plain(3, 0);
@@ -150,7 +150,7 @@ final class CallSentences extends Sentences {
         test(6, "and for others.", () -> {
             SleptFor x = plain(3, 2);
             refused(x, () -> x.wake(3, 0), () -> x.wake(0, 2), () -> x.wake(0, 6));
-            for (int bad : NO_PERSON) refused(x, () -> x.wake(bad, 0), () -> x.wake(0, bad));
+            refused(x, NO_PERSON, bad -> x.wake(bad, 0), bad -> x.wake(0, bad));
             SleptFor none = plain(1, 0);
             refused(none, () -> none.wake(0, 0));
         });
@@ -177,7 +177,7 @@ final class CallSentences extends Sentences {
         test(7, "and for others.", () -> {
             SleptFor x = free(3, 0);
             refused(x, () -> x.sleep(3, 0), () -> x.sleep(0, 3));
-            for (int bad : NO_PERSON) refused(x, () -> x.sleep(bad, 0), () -> x.sleep(0, bad));
+            refused(x, NO_PERSON, bad -> x.sleep(bad, 0), bad -> x.sleep(0, bad));
         });
         test(8, "IDLED: true.", () -> {
             SleptFor x = free(8, 1);
@@ -193,7 +193,7 @@ final class CallSentences extends Sentences {
             SleptFor x = plain(3, 1);
             x.wake(0, 0);
             refused(x, () -> x.idle(3));
-            for (int bad : NO_PERSON) refused(x, () -> x.idle(bad));
+            refused(x, NO_PERSON, bad -> x.idle(bad));
         });
         test(8, "and if it is IDLE.", () -> {
             SleptFor x = plain(3, 1);
@@ -224,7 +224,7 @@ final class CallSentences extends Sentences {
             SleptFor x = free(3, 0);
             x.sleep(0, 1);
             refused(x, -1, () -> x.call(3));
-            for (int bad : NO_PERSON) refused(x, -1, () -> x.call(bad));
+            refused(x, -1, NO_PERSON, bad -> x.call(bad));
         });
         test(9, "and if it isn't ASLEEP.", () -> {
             SleptFor x = free(3, 1);
@@ -246,7 +246,7 @@ final class CallSentences extends Sentences {
             SleptFor x = owing(7);
             refused(x, -1, () -> x.repay(0, 1, 8), () -> x.repay(0, 1, 0), () -> x.repay(0, 1, -1), () -> x.repay(0, 1, HIGH), () -> x.repay(0, 1, LOW),
                 () -> x.repay(1, 0, 1), () -> x.repay(0, 0, 1), () -> x.repay(0, 0, 0), () -> x.repay(0, 2, 1), () -> x.repay(2, 0, 1));
-            for (int bad : NO_PERSON) refused(x, -1, () -> x.repay(0, bad, 1), () -> x.repay(bad, 1, 1));
+            refused(x, -1, NO_PERSON, bad -> x.repay(0, bad, 1), bad -> x.repay(bad, 1, 1));
         });
     }
 
@@ -277,7 +277,7 @@ final class CallSentences extends Sentences {
             SleptFor x = free(2, 1);
             x.wake(0, 0);
             x.sleep(1, 0);
-            for (int bad : new int[] {LOW, -60, -1, 0, 61, 62, 256 + 60, HIGH}) refused(x, -1, () -> x.hour(bad));
+            refused(x, -1, new int[] {LOW, -60, -1, 0, 61, 62, 256 + 60, HIGH}, bad -> x.hour(bad));
         });
         test(11, "or beyond 999.", () -> {
             SleptFor x = free(2, 1);
@@ -302,8 +302,8 @@ final class CallSentences extends Sentences {
         test(12, "NONE for others,", () -> {
             SleptFor x = free(2, 1);
             x.wake(0, 0);
-            for (int bad : new int[] {LOW, -1, 10000, 10001, 65536, HIGH}) refused(x, -1, () -> x.year(bad, 1));
-            for (int bad : new int[] {LOW, -1, 0, 31, 32, 256 + 1, HIGH}) refused(x, -1, () -> x.year(7, bad));
+            refused(x, -1, new int[] {LOW, -1, 10000, 10001, 65536, HIGH}, bad -> x.year(bad, 1));
+            refused(x, -1, new int[] {LOW, -1, 0, 31, 32, 256 + 1, HIGH}, bad -> x.year(7, bad));
             due(x.year(9999, 30) >= 0, true);
             due(x.year(0, 1), 0);
         });
@@ -449,7 +449,7 @@ final class CallSentences extends Sentences {
             feed(x, "@");
             due(x.fault(0), -1);
             x.text();
-            for (int bad : new int[] {LOW, -1, 2, 3, HIGH}) refused(x, -1, () -> x.fault(bad));
+            refused(x, -1, new int[] {LOW, -1, 2, 3, HIGH}, bad -> x.fault(bad));
             due(x.fault(0), 1);
         });
     }

@@ -1,4 +1,6 @@
 import java.util.function.BooleanSupplier;
+import java.util.function.IntPredicate;
+import java.util.function.IntToLongFunction;
 import java.util.function.LongSupplier;
 
 /** What the tests by sentence share: a test names the part of the document and the words there that it tests. */
@@ -63,6 +65,19 @@ abstract class Sentences {
     static void refused(SleptFor x, BooleanSupplier... calls) {
         String ahead = state(x);
         for (BooleanSupplier call : calls) due(call.getAsBoolean(), false);
+        due(state(x), ahead);
+    }
+
+    /** The same by each of these arguments. */
+    static void refused(SleptFor x, long answer, int[] arguments, IntToLongFunction... calls) {
+        String ahead = state(x);
+        for (int argument : arguments) for (IntToLongFunction call : calls) due(call.applyAsLong(argument), answer);
+        due(state(x), ahead);
+    }
+
+    static void refused(SleptFor x, int[] arguments, IntPredicate... calls) {
+        String ahead = state(x);
+        for (int argument : arguments) for (IntPredicate call : calls) due(call.test(argument), false);
         due(state(x), ahead);
     }
 
