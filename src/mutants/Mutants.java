@@ -27,7 +27,8 @@ import javax.tools.ToolProvider;
 
 /**
  * By hand, not by .ci/run: changes the class in one place at a time and tells which changes none of the tests by
- * sentence notices. What is left is to be looked through: most of it changes no answer (a guard, a looser bound).
+ * sentence notices (with the argument all: neither EveryTest nor RandomRunsTest either). What is left is to be looked
+ * through: most of it changes no answer (a guard, a looser bound).
  */
 public final class Mutants {
     private static final Path SOURCE = Path.of("src/main/java/SleptFor.java");
@@ -40,6 +41,7 @@ public final class Mutants {
     private static final Pattern DECLARED = Pattern.compile("(return|case|default|break|(private|static|final|public|int|long|boolean|String|Night|Folk|Text) ).*");
     private static final JavaCompiler COMPILER = ToolProvider.getSystemJavaCompiler();
     private static Path tests;
+    private static boolean byAll;
 
     private record Mutant(int line, String was, String is, String source) {
     }
@@ -113,7 +115,19 @@ public final class Mutants {
         }
         Field failed = loader.loadClass("Sentences").getDeclaredField("failed");
         failed.setAccessible(true);
-        return failed.getInt(null);
+        int wrong = failed.getInt(null);
+        if (wrong == 0 && byAll) wrong += answer(loader, "EveryTest", "wrongAnswers");
+        if (wrong == 0 && byAll) wrong += answer(loader, "RandomRunsTest", "wrongRuns", 0, 1500);
+        return wrong;
+    }
+
+    private static int answer(Loader loader, String test, String method, Object... arguments) throws ReflectiveOperationException {
+        for (Method m : loader.loadClass(test).getDeclaredMethods()) {
+            if (!m.getName().equals(method)) continue;
+            m.setAccessible(true);
+            return (Integer) m.invoke(null, arguments);
+        }
+        throw new NoSuchMethodException(test + "." + method);
     }
 
     /** One that doesn't end, or that breaks the tests themselves, is noticed as well. */
@@ -129,7 +143,7 @@ public final class Mutants {
         });
         run.setDaemon(true);
         run.start();
-        run.join(20_000);
+        run.join(byAll ? 120_000 : 20_000);
         // the JDK 17 that this project keeps to can stop a loop without an end no other way
         if (run.isAlive()) run.stop();
         return !held[0];
@@ -169,11 +183,13 @@ public final class Mutants {
 
     private static Path compiledTests() throws IOException {
         Path out = Files.createTempDirectory("mutants");
-        if (COMPILER.run(null, null, null, "-sourcepath", "src/test/java", "-d", out.toString(), SOURCE.toString(), "src/test/java/SentencesTest.java") != 0) System.exit(1);
+        if (COMPILER.run(null, null, null, "-sourcepath", "src/test/java", "-d", out.toString(), SOURCE.toString(), "src/test/java/SentencesTest.java",
+            "src/test/java/EveryTest.java", "src/test/java/RandomRunsTest.java") != 0) System.exit(1);
         return out;
     }
 
     public static void main(String[] args) throws IOException, InterruptedException {
+        byAll = args.length > 0 && args[0].equals("all");
         tests = compiledTests();
         String source = Files.readString(SOURCE);
         PrintStream told = System.out;

@@ -526,10 +526,16 @@ final class Model {
     int rota(int n, int people, int e, int r, int hour) {
         if (n < 1 || n > 8 || e < 1 || e > 8 || r < 0 || r > 8 || !isSet(people, 1, 4)) return NONE;
         if (hour < NONE || hour >= n) return NONE;
+        int[] plan = bestRota(n, people, e, r);
+        if (plan == null) return NONE;
+        return hour == NONE ? changes(plan) : plan[hour];
+    }
+
+    /** All plans one by one, those with the lowest PEOPLE ahead first; null: there is none. */
+    static int[] bestRota(int n, int people, int e, int r) {
         List<Integer> ps = list(people);
         int all = (int) Math.round(Math.pow(ps.size(), n));
-        int best = 100;
-        int[] bestPlan = null;
+        int[] best = null;
         for (int code = 0; code < all; code++) {
             int[] plan = new int[n];
             int left = code;
@@ -537,15 +543,15 @@ final class Model {
                 plan[i] = ps.get(left % ps.size());
                 left /= ps.size();
             }
-            int changes = 0;
-            for (int i = 1; i < n; i++) if (plan[i] != plan[i - 1]) changes++;
-            if (changes < best && isRota(plan, e, r)) {
-                best = changes;
-                bestPlan = plan;
-            }
+            if ((best == null || changes(plan) < changes(best)) && isRota(plan, e, r)) best = plan;
         }
-        if (bestPlan == null) return NONE;
-        return hour == NONE ? best : bestPlan[hour];
+        return best;
+    }
+
+    static int changes(int[] plan) {
+        int changes = 0;
+        for (int i = 1; i < plan.length; i++) if (plan[i] != plan[i - 1]) changes++;
+        return changes;
     }
 
     static boolean isRota(int[] plan, int e, int r) {

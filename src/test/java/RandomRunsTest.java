@@ -249,15 +249,21 @@ public final class RandomRunsTest {
         return good && wholeState();
     }
 
-    public static void main(String[] args) {
-        int runs = args.length > 0 ? Integer.parseInt(args[0]) : 1500;
-        int first = args.length > 1 ? Integer.parseInt(args[1]) : 0;
+    /** How many of these runs are not as due, up to the first one. */
+    static int wrongRuns(int first, int runs) {
         for (int seed = first; seed < first + runs; seed++) {
             if (!new RandomRunsTest(seed).isSame()) {
                 System.out.println("run " + seed + " is not as due");
-                System.exit(1);
+                return 1;
             }
         }
+        return 0;
+    }
+
+    public static void main(String[] args) {
+        int runs = args.length > 0 ? Integer.parseInt(args[0]) : 1500;
+        int first = args.length > 1 ? Integer.parseInt(args[1]) : 0;
+        if (wrongRuns(first, runs) != 0) System.exit(1);
         System.out.println(runs + " drawn runs are as due");
     }
 }
